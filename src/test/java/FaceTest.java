@@ -26,6 +26,7 @@ public final class FaceTest {
         promise1();
         twoObjects();
         methods();
+        privateMethods();
         constants();
         wordsOfTheProgram();
         Check.end();
@@ -75,6 +76,24 @@ public final class FaceTest {
         Check.due("it is public", Modifier.isPublic(constructors[0].getModifiers()) ? 1 : 0, 1);
         int modifiers = DependentReplay.class.getModifiers();
         Check.due("public and final", Modifier.isPublic(modifiers) && Modifier.isFinal(modifiers) ? 1 : 0, 1);
+    }
+
+    /** LANGUAGE.md, rule 1: no private method bears the name of a public one. */
+    private static void privateMethods() {
+        String names = Arrays.toString(METHODS);
+        checkPrivateMethods(DependentReplay.class, names);
+        for (Class<?> inside : DependentReplay.class.getDeclaredClasses()) {
+            Check.due(inside + " is static", Modifier.isStatic(inside.getModifiers()) ? 1 : 0, 1);
+            checkPrivateMethods(inside, names);
+        }
+    }
+
+    private static void checkPrivateMethods(Class<?> of, String names) {
+        for (Method method : of.getDeclaredMethods()) {
+            if (Modifier.isPrivate(method.getModifiers())) {
+                Check.due(method + " bears a public name", names.contains(" " + method.getName() + "(") ? 1 : 0, 0);
+            }
+        }
     }
 
     private static void constants() throws Exception {

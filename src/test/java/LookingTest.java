@@ -30,6 +30,9 @@ public final class LookingTest {
         x.lose(1);
         Check.due("a lost one that leans on a lost one is no orphan", x.ofEntry(2, 4), 0);
         Check.due("lost ones lean, too", x.ofEntry(0, 8), 4);
+        DependentReplay z = Check.after("mb/a");
+        Check.due("no round was made yet", z.ofEntry(0, 5), -6);
+        Check.due("nor was it refused or done", z.ofEntry(0, 6), -6);
         DependentReplay y = Check.after("wb=1;r;r;mb/a;r");
         Check.due("refused in round 0", y.ofEntry(0, 5), 0);
         Check.due("why", y.ofEntry(0, 6), 2);

@@ -60,7 +60,7 @@ public final class ReplayingTest {
         Check.due("it is a change", x.count(9), 1);
         Check.carryOut(x, "mb/a;wc=5;mc/b;l1;mh/a;r;r;r");
         Check.due("rounds", x.count(5), 3);
-        Check.due("refused ones count, too: beginAnew()", x.beginAnew(), 2);
+        Check.due("beginAnew()", x.beginAnew(), 2);
         Check.due("none is replayed", x.count(3), 0);
         Check.due("none is refused", x.count(4), 0);
         Check.due("no round", x.count(5), 0);
@@ -74,6 +74,10 @@ public final class ReplayingTest {
         Check.due("changes", x.count(9), 4);
         Check.due("the replay comes to the same", x.replay(), 1);
         Check.due("replayed", x.count(3), 2);
+        DependentReplay y = Check.after("wb=1;mc/a;r");
+        Check.due("a refused one", y.count(4), 1);
+        Check.due("it counts, too", y.beginAnew(), 2);
+        Check.due("none is refused", y.set(3), 0);
     }
 
     private static void promise10Round() {

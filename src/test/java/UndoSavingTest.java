@@ -4,6 +4,7 @@ public final class UndoSavingTest {
 
     public static void main(String[] arguments) {
         promise25EachChange();
+        promise25LeaningAndRefused();
         promise25NoChange();
         promise25Six();
         promise25PadAndSlots();
@@ -11,6 +12,7 @@ public final class UndoSavingTest {
         promise26Save();
         promise26Overwrites();
         promise27Restore();
+        promise27OtherLog();
         promise27Wrong();
         Check.end();
     }
@@ -43,6 +45,21 @@ public final class UndoSavingTest {
         Check.due("undo of " + what, x.undo(), 1);
         Check.due("state after " + what + " and undo", Check.state(x), before);
         Check.due("history", x.count(9), 1);
+    }
+
+    private static void promise25LeaningAndRefused() {
+        DependentReplay x = Check.after("mb/a;mc/a;mb/a");
+        x.need(1, 0);
+        x.undo();
+        x.lose(0);
+        Check.due("what was told does not make an orphan any more", x.set(1), Check.setOf(2));
+        Check.due("nor wants it", x.wants(1), 0);
+        x.undo();
+        x.replay();
+        Check.due("refused", x.set(3), Check.setOf(2));
+        x.undo();
+        Check.due("not refused any more", x.set(3), 0);
+        Check.due("nor counted", x.count(4), 0);
     }
 
     private static void promise25NoChange() {
@@ -162,6 +179,21 @@ public final class UndoSavingTest {
         x.undo();
         x.undo();
         Check.due("before the restoring", x.count(0), 4);
+    }
+
+    private static void promise27OtherLog() {
+        DependentReplay x = Check.after("vb/c;wd=5;mb/a");
+        x.replay();
+        String before = Check.state(x);
+        x.save(1);
+        x.undo();
+        x.undo();
+        Check.carryOut(x, "wf=8;mg/a;dg;mh/a;r");
+        Check.due("restore(1)", x.restore(1), 3);
+        Check.due("nothing of the other log", Check.state(x), before);
+        Check.due("undo", x.undo(), 1);
+        Check.due("the other log", x.ofEntry(0, 2), 8);
+        Check.due("its length", x.count(0), 4);
     }
 
     private static void promise27Wrong() {

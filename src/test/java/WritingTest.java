@@ -117,6 +117,10 @@ public final class WritingTest {
         x.lose(3);
         Check.due("drop", x.drop(1), 11);
         Check.due("lost ones count, too", x.dependsOn(11), Check.setOf(3, 4));
+        DependentReplay y = Check.after("mc/b;db");
+        Check.due("the first entry lies in it", y.dependsOn(1), Check.setOf(0));
+        DependentReplay z = Check.after("vc/b;md/a;db");
+        Check.due("a move into it, too", z.dependsOn(2), Check.setOf(0));
         Check.due("make", x.make(1, 0), 12);
         Check.due("only a drop looks into its file", x.dependsOn(12), Check.setOf(11));
     }
@@ -165,6 +169,8 @@ public final class WritingTest {
         for (int entry = 0; entry < 40; entry++) {
             Check.due("entry " + entry, entry % 2 == 0 ? x.make(1 + entry % 15, 0) : x.drop(1 + entry % 15), entry);
         }
+        Check.due("those that lean on the first", x.ofEntry(0, 8), 2);
+        Check.due("unlike", x.unlike(), 0);
         Check.due("one make more", x.make(1, 0), -4);
         Check.due("one write more", x.write(1, 0), -4);
         Check.due("one move more", x.move(1, 0), -4);
