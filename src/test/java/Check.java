@@ -2,15 +2,25 @@
 final class Check {
     private static int wrong = 0;
     private static int asked = 0;
+    /** What the answers hold that are asked for now, if a test says it. */
+    private static String held = "";
 
     private Check() {
+    }
+
+    static void nowHeld(String sentence) {
+        held = sentence + ": ";
+    }
+
+    static int asked() {
+        return asked;
     }
 
     static void due(String what, long got, long want) {
         asked++;
         if (got != want) {
             wrong++;
-            System.out.println(what + " answered " + got + ", due is " + want);
+            System.out.println(held + what + " answered " + got + ", due is " + want);
         }
     }
 
@@ -18,7 +28,7 @@ final class Check {
         asked++;
         if (!got.equals(want)) {
             wrong++;
-            System.out.println(what + " is [" + got + "], due is [" + want + "]");
+            System.out.println(held + what + " is [" + got + "], due is [" + want + "]");
         }
     }
 
