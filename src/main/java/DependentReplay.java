@@ -20,8 +20,7 @@ public final class DependentReplay {
     private final State now = new State();
     private final History history = new History();
     private final Slot[] slots = new Slot[SLOTS];
-    private final Pad pad = new Pad();
-    private final Reader reader = new Reader(pad);
+    private final Reader reader = new Reader();
     /** Used again by each question about a replay that begins anew. */
     private final Replay trial = new Replay();
     private final Tree treeOfWriting = new Tree();
@@ -139,7 +138,7 @@ public final class DependentReplay {
             case 5: return now.replay.rounds;
             case 6: return now.replay.tree.size();
             case 7: return now.replay.widest;
-            case 8: return pad.length;
+            case 8: return reader.pad.length;
             case 9: return history.kept;
             default: return BAD_VALUE;
         }
@@ -206,11 +205,11 @@ public final class DependentReplay {
     // ---- texts
 
     public int put(long characters) {
-        return pad.append(characters);
+        return reader.pad.append(characters);
     }
 
     public int wipe() {
-        return pad.clear();
+        return reader.pad.clear();
     }
 
     public int fault() {
@@ -228,7 +227,7 @@ public final class DependentReplay {
             carriedOut++;
             reader.readSign(';');
         }
-        pad.clear();
+        reader.pad.clear();
         return recorded(carriedOut);
     }
 
@@ -784,15 +783,11 @@ public final class DependentReplay {
     private static final class Reader {
         private static final int NUMBER_DIGITS = 3;
 
-        private final Pad pad;
+        final Pad pad = new Pad();
         private int at;
         int letter;
         int first;
         int second;
-
-        Reader(Pad pad) {
-            this.pad = pad;
-        }
 
         void begin() {
             at = 0;

@@ -2,13 +2,10 @@ import java.lang.reflect.Constructor;
 import java.lang.reflect.Field;
 import java.lang.reflect.Method;
 import java.lang.reflect.Modifier;
-import java.nio.charset.StandardCharsets;
-import java.nio.file.Files;
-import java.nio.file.Path;
 import java.util.Arrays;
 import java.util.TreeSet;
 
-/** Promise 1, the public face, and the rules of LANGUAGE.md that can be looked up in the text. */
+/** Promise 1, and the public face; with it rule 1 of LANGUAGE.md. */
 public final class FaceTest {
     private static final String[] METHODS = {
         "int make(int,int)", "int write(int,int)", "int move(int,int)", "int drop(int)", "int need(int,int)", "int lose(int)",
@@ -28,7 +25,6 @@ public final class FaceTest {
         methods();
         privateMethods();
         constants();
-        wordsOfTheProgram();
         Check.end();
     }
 
@@ -105,16 +101,5 @@ public final class FaceTest {
             }
         }
         Check.due("the constants", found.toString(), new TreeSet<>(Arrays.asList(CONSTANTS)).toString());
-    }
-
-    private static void wordsOfTheProgram() throws Exception {
-        String program = Files.readString(Path.of("src/main/java/DependentReplay.java"), StandardCharsets.US_ASCII);
-        String code = program.replaceAll("(?s)/\\*.*?\\*/", " ").replaceAll("//[^\n]*", " ");
-        for (String word : new String[] {"throw", "throws", "try", "catch", "synchronized", "assert", "package", "Exception", "Random",
-            "Thread", "System.nanoTime", "System.currentTimeMillis", "System.out"}) {
-            boolean isThere = code.matches("(?s).*\\b" + word.replace(".", "\\.") + "\\b.*");
-            Check.due("the word " + word + " in the program", isThere ? 1 : 0, 0);
-        }
-        Check.due("a lambda or a method reference", code.contains("->") || code.contains("::") ? 1 : 0, 0);
     }
 }
